@@ -846,10 +846,10 @@ public final class SandMarch {
 
     /** The TAPE and its TOKENS; the last TOKEN is always the end. */
     private static final class Tape {
-        /** Eight letters for each word, in the order of their numbers. */
-        private static final String WORDS = "size    sand    heap    grass   wind    hop     shadow  slope   stick   draw    east    south   west    north   by      ";
+        /** In the order of their numbers, with a blank behind each. */
+        private static final String WORDS =
+                "size sand heap grass wind hop shadow slope stick draw east south west north by ";
         private static final int WORD_LETTERS = 8;
-        private static final int WORD_COUNT = 15;
         private static final int NUMBER_DIGITS = 4;
 
         final int[] bytes = new int[MAX_BYTES];
@@ -918,22 +918,21 @@ public final class SandMarch {
         }
 
         private int wordNumber(int start) {
-            for (int word = 0; word < WORD_COUNT; word++) {
-                if (isWord(word, start)) {
+            int word = 0;
+            int alike = 0;
+            for (int i = 0; i < WORDS.length(); i++) {
+                char sign = WORDS.charAt(i);
+                if (sign != ' ') {
+                    boolean still = alike != NONE && start + alike < at && bytes[start + alike] == sign;
+                    alike = still ? alike + 1 : NONE;
+                } else if (alike == at - start) {
                     return word;
+                } else {
+                    word++;
+                    alike = 0;
                 }
             }
             return NONE;
-        }
-
-        private boolean isWord(int word, int start) {
-            for (int i = 0; i < WORD_LETTERS; i++) {
-                int letter = start + i < at ? bytes[start + i] : ' ';
-                if (letter != WORDS.charAt(word * WORD_LETTERS + i)) {
-                    return false;
-                }
-            }
-            return true;
         }
 
         private static boolean isBlank(int b) {
