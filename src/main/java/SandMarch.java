@@ -721,13 +721,12 @@ public final class SandMarch {
         long fitting = sightings.fitting(k);
         int passed = 0;
         for (int seed = 0; seed < SEEDS; seed++) {
-            if ((fitting >> seed & 1L) == 0) {
-                continue;
+            if (Sightings.holds(fitting, seed)) {
+                if (passed == i) {
+                    return seed;
+                }
+                passed++;
             }
-            if (passed == i) {
-                return seed;
-            }
-            passed++;
         }
         return NONE;
     }
@@ -1671,9 +1670,9 @@ public final class SandMarch {
         /** Notes the HEIGHTS behind n TRIES by each of some SEEDS. */
         void survey(int n, long some) {
             for (int seed = 0; seed < SEEDS; seed++) {
-                if ((some >> seed & 1L) == 1L) {
+                if (holds(some, seed)) {
                     trial.startFrom(told, seed);
-                trial.blowOn(n);
+                    trial.blowOn(n);
                     System.arraycopy(probe.heights, 0, surveyed, seed * MAX_CELLS, land.cells);
                 }
             }
@@ -1683,7 +1682,7 @@ public final class SandMarch {
         int mostAlike(int cell, long some) {
             int most = 0;
             for (int seed = 0; seed < SEEDS; seed++) {
-                if ((some >> seed & 1L) == 1L) {
+                if (holds(some, seed)) {
                     most = Math.max(most, alike(cell, surveyed[seed * MAX_CELLS + cell], some));
                 }
             }
@@ -1691,13 +1690,17 @@ public final class SandMarch {
         }
 
         private int alike(int cell, int height, long some) {
-            int count = 0;
+            int found = 0;
             for (int seed = 0; seed < SEEDS; seed++) {
-                if ((some >> seed & 1L) == 1L && surveyed[seed * MAX_CELLS + cell] == height) {
-                    count++;
+                if (holds(some, seed) && surveyed[seed * MAX_CELLS + cell] == height) {
+                    found++;
                 }
             }
-            return count;
+            return found;
+        }
+
+        static boolean holds(long some, int seed) {
+            return (some >> seed & 1L) == 1L;
         }
     }
 }

@@ -110,8 +110,8 @@ public final class AheadTest {
     private static void nextOnes() {
         SandMarch x = Check.fieldOf(DUNES);
         SandMarch y = Check.fieldOf(DUNES);
-        int busy = y.blow(300);
-        check.due("next(300, 0)", x.next(300, 0), 300 - busy);
+        int busy = y.blow(500);
+        check.due("next(500, 0)", x.next(500, 0), 500 - busy);
         for (int what = 0; what < 3; what++) {
             check.due("next(0, " + what + ")", x.next(0, what), 0);
             check.due("next(-1, " + what + ")", x.next(-1, what), -1);
@@ -150,6 +150,7 @@ public final class AheadTest {
             check.due("to the west", west.flux(column, 2), -4);
             check.due("to the south", south.flux(column, 2), 0);
             check.due("of none", east.flux(column, 0), 0);
+            check.due("of 500", east.flux(column, 500), 1000);
         }
         // from 0 two to the east, and a slide from 1 to 0
         int[] want = {0, 0, 1, 0};
@@ -181,6 +182,7 @@ public final class AheadTest {
         SandMarch x = Check.fieldOf(DUNES);
         check.due("of no tries", x.game(5, 0, 0), x.all(1));
         check.due("of no tries", x.game(5, 0, 3), 0);
+        check.due("of 500", x.game(17, 500, 3), 500 - x.next(500, 0));
         int[][] wrong = {{-1, 1, 0}, {10000, 1, 0}, {0, -1, 0}, {0, 501, 0}, {0, 1, 4}, {0, 1, -1}};
         for (int[] w : wrong) {
             check.due("game(" + w[0] + ", " + w[1] + ", " + w[2] + ")", x.game(w[0], w[1], w[2]), -1);

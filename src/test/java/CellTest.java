@@ -139,6 +139,11 @@ public final class CellTest {
         }
         check.due("all(7)", x.all(7), -1);
         check.due("all(-1)", x.all(-1), -1);
+        SandMarch bare = Check.fieldOf("size 3 by 2;sand 0;");
+        int[] none = {0, 0, 6, 0, 0, 0, 0};
+        for (int what = 0; what < 7; what++) {
+            check.due("bare all(" + what + ")", bare.all(what), none[what]);
+        }
         SandMarch y = Check.fieldOf("size 3 by 2;sand 0;slope 9;heap 0 0 2;");
         // to the south each of two rows counts: once down, once up
         int[] flat = {2, 2, 5, 1, 2, 8, 1};

@@ -50,6 +50,10 @@ public final class DuneTest {
             check.due("dune(" + wrong[0] + ", " + wrong[1] + ", " + wrong[2] + ")",
                     x.dune(wrong[0], wrong[1], wrong[2]), -1);
         }
+        for (int what = 0; what < 7; what++) {
+            check.due("dune(1, 3, " + what + ")", x.dune(1, 3, what), -1);
+            check.due("dune(1, -1, " + what + ")", x.dune(1, -1, what), -1);
+        }
         SandMarch y = Check.fieldOf("size 5 by 2;sand 1;slope 9;heap 3 0 2;heap 1 1 2;");
         check.due("the first of the greatest", y.dune(1, 0, 4), 3);
         check.due("all columns", y.dune(1, 0, 5), 5);
