@@ -50,6 +50,22 @@ final class Check {
         return x;
     }
 
+    /** The text's fault and its place; 0 at NONE is none. */
+    void dueFault(String text, int which, int place) {
+        SandMarch x = new SandMarch();
+        tell(x, text);
+        int answer = x.field();
+        String call = "[" + text.replace('\n', '/') + "] ";
+        due(call + "field() is NONE", answer == SandMarch.NONE, which != 0);
+        due(call + "fault(0)", x.fault(0), which);
+        due(call + "fault(1)", x.fault(1), place);
+        due(call + "about(16)", x.about(16), 0);
+    }
+
+    void dueGood(String text) {
+        dueFault(text, 0, SandMarch.NONE);
+    }
+
     static String heights(SandMarch x) {
         StringBuilder all = new StringBuilder();
         for (int cell = 0; cell < x.about(2); cell++) {

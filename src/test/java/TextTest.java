@@ -20,20 +20,12 @@ public final class TextTest {
         check.finish("TextTest");
     }
 
-    /** The text's fault and its place; 0 at NONE is none. */
     private static void fault(String text, int which, int place) {
-        SandMarch x = new SandMarch();
-        Check.tell(x, text);
-        int answer = x.field();
-        String call = "[" + text.replace('\n', '/') + "] ";
-        check.due(call + "field() is NONE", answer == SandMarch.NONE, which != 0);
-        check.due(call + "fault(0)", x.fault(0), which);
-        check.due(call + "fault(1)", x.fault(1), place);
-        check.due(call + "about(16)", x.about(16), 0);
+        check.dueFault(text, which, place);
     }
 
     private static void good(String text) {
-        fault(text, 0, SandMarch.NONE);
+        check.dueGood(text);
     }
 
     private static void newObject() {
