@@ -68,7 +68,8 @@ final class Check {
 
     static String heights(SandMarch x) {
         StringBuilder all = new StringBuilder();
-        for (int cell = 0; cell < x.about(2); cell++) {
+        int cells = x.about(2);
+        for (int cell = 0; cell < cells; cell++) {
             all.append(cell == 0 ? "" : " ").append(x.cell(cell, 0));
         }
         return all.toString();

@@ -373,6 +373,11 @@ public final class EdgeAheadTest {
                 check.due("game(" + seed + ", 0, " + what + ")", x.game(seed, 0, what), want[what]);
             }
         }
+        // "DUNES of LEVEL 1": the low one counts, and bare ground parts them
+        SandMarch low = Check.fieldOf("size 5 by 1;sand 0;slope 9;heap 1 0 7;heap 3 0 1;");
+        check.due("game(5, 0, 2)", low.game(5, 0, 2), 2);
+        check.due("of flat sand", Check.fieldOf("size 5 by 1;sand 1;").game(5, 0, 2), 1);
+        check.due("of bare ground", Check.fieldOf("size 5 by 1;sand 0;").game(5, 0, 2), 0);
         SandMarch now = Check.fieldOf(DUNES);
         now.blow(4);
         now.turn(0, 5);

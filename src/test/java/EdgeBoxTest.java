@@ -209,6 +209,11 @@ public final class EdgeBoxTest {
             x.field();
             x.blow(9);
             x.image(2);
+            x.ask(50, 0, 6);
+            x.tallest(9, 0);
+            x.flux(11, 9);
+            x.shift(2, 0);
+            x.crests(0);
             Check.tell(x, FIELD);
             x.field();
             return x;

@@ -334,6 +334,12 @@ public final class EdgeCellTest {
         dueAll("size 3 by 3;sand 0;heap 1 1 2;", 2, 2, 8, 1, 2, 8, 1);
         dueAll("size 3 by 3;sand 0;heap 1 1 2;grass 1 1;", 2, 2, 8, 1, 2, 8, 0);
         dueAll("size 12 by 8;sand 9;", 864, 9, 0, 0, 0, 0, 96);
+        // shadow on the first cell, on the last one; the steepest at the first, at the last
+        dueAll("size 3 by 3;sand 1;heap 2 0 2;", 11, 3, 0, 1, 2, 8, 8);
+        dueAll("size 3 by 3;sand 1;heap 1 2 2;", 11, 3, 0, 1, 2, 8, 8);
+        dueAll("size 3 by 3;sand 1;heap 0 0 2;", 11, 3, 0, 1, 2, 8, 8);
+        dueAll("size 3 by 3;sand 1;heap 2 2 2;", 11, 3, 0, 1, 2, 8, 8);
+        dueAll("size 3 by 3;sand 1;grass 0 0;grass 2 2;", 9, 1, 0, 0, 0, 0, 7);
     }
 
     /** Differences "to the east and to the south together": each CELL counts both, round the edge, too. */

@@ -11,6 +11,7 @@ public final class EdgeDuneTest {
         notByCorners();
         numberedByFirstCells();
         mostDunes();
+        largestField();
         duneWhats();
         duneOutside();
         duneColumnsAndRows();
@@ -140,6 +141,25 @@ public final class EdgeDuneTest {
         check.due("at level 4 it is 14", x.dune(4, 0, 0), 14);
     }
 
+    /** The largest field: the last column and row at each question. */
+    private static void largestField() {
+        SandMarch x = Check.fieldOf("size 12 by 8;sand 0;slope 9;heap 11 7 5;heap 10 7 3;heap 5 3 4;");
+        check.due("saddle(95, 41)", x.saddle(95, 41), 0);
+        check.due("saddle(95, 94)", x.saddle(95, 94), 3);
+        check.due("parts(2)", x.parts(2), 1);
+        check.due("parts(3)", x.parts(3), -1);
+        dueDune(x, 1, 1, 94, 2, 8, 5, 95, 2, 1);
+        check.due("duneOf(1, 95)", x.duneOf(1, 95), 1);
+        x.image(2);
+        check.due("follows(2, 1, 1)", x.follows(2, 1, 1), 1);
+        check.due("fates(2, 1, 2)", x.fates(2, 1, 2), 0);
+        check.due("shift(2, 2)", x.shift(2, 2), 12);
+        // by the east wind 3, 5 is a rise, so that its crest is the last cell
+        check.due("cell(95, 4)", x.cell(95, 4), 1);
+        check.due("crests(0)", x.crests(0), 2);
+        check.due("crests(2)", x.crests(2), 41);
+    }
+
     /** A chessboard of 12 by 8: 48 dunes, more than can be told in one text. */
     private static void mostDunes() {
         SandMarch x = Check.fieldOf("size 12 by 8;sand 0;");
@@ -180,6 +200,9 @@ public final class EdgeDuneTest {
         dueDune(x, 2, 2, 11, 1, 3, 3, 11, 1, 1);
         dueDune(x, 5, 0, 8, 2, 10, 5, 8, 1, 2);
         dueDune(x, 6, 0, -1, -1, -1, -1, -1, -1, -1);
+        // one slab is the greatest height, and its first cell is not the field's first
+        SandMarch low = field(5, 0, 0, 1, 1, 0);
+        dueDune(low, 1, 0, 2, 2, 2, 1, 2, 2, 1);
     }
 
     /** "NONE if there is none such, or for another what." */
@@ -235,6 +258,9 @@ public final class EdgeDuneTest {
         check.due("of flat sand two", Check.fieldOf("sand 9;").parts(2), -1);
         // the top level of all: 9 and 9, with 8 between
         check.due("at the top", field(5, 8, 9, 8, 9, 8).parts(2), 9);
+        // cell 0 alone joins them
+        check.due("parted by the first cell", field(5, 2, 3, 0, 0, 3).parts(2), 3);
+        check.due("parted by the last cell", field(5, 3, 0, 0, 3, 2).parts(2), 3);
         // more at a low level, then fewer, then more
         SandMarch z = field(9, 1, 0, 1, 0, 3, 2, 3, 2, 3);
         check.due("at level 1", z.parts(2), 1);
@@ -262,6 +288,8 @@ public final class EdgeDuneTest {
     private static void saddleRoundTheEdge() {
         check.due("the way through the edge", field(6, 5, 1, 5, 3, 3, 4).saddle(0, 2), 3);
         check.due("the way within", field(6, 5, 4, 5, 3, 3, 4).saddle(0, 2), 4);
+        check.due("the first cell between", field(5, 2, 3, 0, 0, 3).saddle(1, 4), 2);
+        check.due("the last cell between", field(5, 3, 0, 0, 3, 2).saddle(0, 3), 2);
         check.due("by rows", field(3, 5, 0, 0, 1, 0, 0, 5, 0, 0).saddle(0, 6), 5);
         check.due("not by corners", field(4, 5, 1, 0, 0, 2, 5, 0, 0, 0, 0, 0, 0).saddle(0, 5), 2);
     }
@@ -350,6 +378,7 @@ public final class EdgeDuneTest {
     private static void noCrestLine() {
         dueCrests(Check.fieldOf("sand 0;"), 0, 0, -1);
         dueCrests(Check.fieldOf("sand 9;"), 0, 0, -1);
+        dueCrests(Check.fieldOf("size 12 by 8;"), 0, 0, -1);
         SandMarch x = field(5, 2, 0, 0, 0, 0);
         for (int what : new int[] {-1, 3, 4, MIN, MAX}) {
             check.due("crests(" + what + ")", x.crests(what), -1);

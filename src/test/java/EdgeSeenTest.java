@@ -353,6 +353,14 @@ public final class EdgeSeenTest {
             check.due("none fits: ask(" + n + ", 1, 0)", x.ask(n, 1, 0), -1);
         }
         check.due("before it was told", x.ask(0, 1, -1), 50);
+        // what was asked about a larger field does not count in a smaller one
+        SandMarch once = Check.fieldOf("size 12 by 8;sand 3;stick 3 3;");
+        once.ask(200, 0, 0);
+        Check.tell(once, "size 3 by 1;sand 2;stick 16 16;");
+        once.field();
+        check.due("a cell of the field", once.ask(0, 0, 0), 0);
+        check.due("all alike", once.ask(0, 1, 0), 50);
+        dueAsk(once, "size 3 by 1;sand 2;stick 16 16;", 1, 0);
     }
 
     private static void dueAsk(SandMarch x, String text, int n, int k) {
@@ -402,9 +410,28 @@ public final class EdgeSeenTest {
         check.due("one fits", one.fits(0), 1);
         check.due("the first cell", one.ask(5, 0, 0), 0);
         check.due("one is left", one.ask(5, 1, 0), 1);
+        for (int seed : new int[] {0, 49}) {
+            SandMarch lone = onlySeed(seed);
+            check.due("one fits", lone.fits(0), 1);
+            check.due("seed " + seed, lone.fit(0, 0), seed);
+            check.due("the first cell", lone.ask(5, 0, 0), 0);
+            check.due("one is left", lone.ask(5, 1, 0), 1);
+        }
         // two seeds: the first cell by which they are parted
         SandMarch two = Check.fieldOf("size 3 by 1;sand 2;slope 9;shadow 9;hop 1;stick 16 16;");
         dueAsk(two, "size 3 by 1;sand 2;slope 9;shadow 9;hop 1;stick 16 16;", 1, 0);
+    }
+
+    /** So much is seen that one seed alone fits. */
+    private static SandMarch onlySeed(int seed) {
+        SandMarch x = Check.fieldOf(ONE_TRY);
+        for (int n = 1; n <= 9 && x.fits(0) > 1; n++) {
+            int cell = Draws.behind(seed, 2 * n - 1) % 80;
+            int high = height(ONE_TRY, seed, n, cell);
+            x.seen(n, cell, high, true);
+            x.seen(n, cell, high + 1, false);
+        }
+        return x;
     }
 
     /** A cell that one of the seeds alone draws first. */

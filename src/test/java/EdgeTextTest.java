@@ -82,7 +82,16 @@ public final class EdgeTextTest {
             bad(blanks + "hop 3#", 1, length - 1);
             bad(blanks + "hop 3x", 1, length - 2);
             bad(blanks + "hop 37", 4, length - 2);
+            bad(blanks + "   siz", 2, length - 3);
+            bad(blanks + "  wind", 2, length);
+            bad(blanks + "shadow", 2, length);
         }
+        // as many TOKENS as there can be
+        bad(";".repeat(900), 2, 0);
+        bad("sand 3;" + ";".repeat(893), 2, 7);
+        bad("#".repeat(900), 1, 0);
+        bad("a".repeat(900), 1, 0);
+        bad("1".repeat(900), 1, 0);
     }
 
     /** "Twenty bytes come behind those on the TAPE, of each number the highest first". */
@@ -385,13 +394,17 @@ public final class EdgeTextTest {
         for (int[] u : untold) {
             check.due("not told about(" + u[0] + ")", x.about(u[0]), u[1]);
         }
-        SandMarch y = Check.fieldOf("hop 6;shadow 9;slope 9;stick 1 2;draw 9;wind north 9;");
+        SandMarch y = Check.fieldOf("hop 6;shadow 9;slope 9;stick 1 2;draw 9;wind north 9 west 5 south 3;");
         Check.tell(y, "");
         y.field();
         for (int[] u : untold) {
             check.due("not told again about(" + u[0] + ")", y.about(u[0]), u[1]);
         }
         check.due("not told again: east", y.wind(0), 0);
+        check.due("not told again: a round of 1", y.about(11), 1);
+        Check.tell(y, "wind south 2;");
+        y.field();
+        check.due("one way again", y.about(11), 2);
     }
 
     /** "heap, 20 at most"; "a heap too many: at that word". */

@@ -15,9 +15,11 @@ public final class ModelTest {
     private static SandMarch x;
     private static Model model;
     private static String run;
+    /** An object is used for at most 512 calls. */
+    private static int callsLeft;
 
     public static void main(String[] args) throws Exception {
-        int runs = args.length > 0 ? Integer.parseInt(args[0]) : 250;
+        int runs = args.length > 0 ? Integer.parseInt(args[0]) : 600;
         int from = args.length > 1 ? Integer.parseInt(args[1]) : 0;
         for (Method m : SandMarch.class.getDeclaredMethods()) {
             if (Modifier.isPublic(m.getModifiers())) calls.add(m);
@@ -34,10 +36,12 @@ public final class ModelTest {
         run = "run " + number;
         x = new SandMarch();
         model = new Model();
+        callsLeft = 512;
         if (random.nextInt(8) != 0) tellField();
-        for (int i = 0; i < 60; i++) {
-            if (random.nextInt(25) == 0) tellField();
-            else if (random.nextInt(30) == 0) compareAll();
+        // enough calls are left to look at all of the largest field at the end
+        while (callsLeft > 130 && random.nextInt(150) != 0) {
+            if (callsLeft > 330 && random.nextInt(40) == 0) tellField();
+            else if (callsLeft > 260 && random.nextInt(60) == 0) compareAll();
             else oneCall(random.nextInt(calls.size()));
         }
         compareAll();
@@ -63,9 +67,8 @@ public final class ModelTest {
     private static void compareAll() throws Exception {
         for (int what = -1; what < 18; what++) call("about", what);
         for (int what = -1; what < 8; what++) call("all", what);
-        for (int cell = 0; cell < model.about(2); cell++) {
-            for (int what = 0; what < 5; what++) call("cell", cell, what);
-        }
+        int what = random.nextInt(4) == 0 ? 1 + random.nextInt(4) : 0;
+        for (int cell = 0; cell < model.about(2); cell++) call("cell", cell, what);
     }
 
     private static void oneCall(int which) throws Exception {
@@ -124,6 +127,8 @@ public final class ModelTest {
     }
 
     private static void call(int which, Object[] arguments) throws Exception {
+        callsLeft--;
+        check.due(run + ": calls of one object", callsLeft >= 0, true);
         String told = run + ": " + calls.get(which).getName() + java.util.Arrays.toString(arguments);
         long want = number(same.get(which).invoke(model, arguments));
         long got;

@@ -252,8 +252,9 @@ public final class RefusedTest {
 
     private static SandMarch lateOf(int time) {
         SandMarch x = rich();
-        while (x.about(15) < time) {
-            x.later(Math.min(1000, time - x.about(15)));
+        int at = x.about(15);
+        while (at < time) {
+            at = x.later(Math.min(1000, time - at));
         }
         return x;
     }

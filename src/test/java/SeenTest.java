@@ -145,7 +145,8 @@ public final class SeenTest {
                 int best = -1;
                 int fewest = 51;
                 int[][] heights = new int[50][8];
-                for (int i = 0; i < x.fits(0); i++) {
+                int fits = x.fits(0);
+                for (int i = 0; i < fits; i++) {
                     SandMarch y = Check.fieldOf(FIELD + "draw " + x.fit(i, 0) + ";");
                     y.blow(n);
                     for (int cell = 0; cell < 8; cell++) {
@@ -154,9 +155,9 @@ public final class SeenTest {
                 }
                 for (int cell = 0; cell < 8; cell++) {
                     int most = 0;
-                    for (int i = 0; i < x.fits(0); i++) {
+                    for (int i = 0; i < fits; i++) {
                         int alike = 0;
-                        for (int j = 0; j < x.fits(0); j++) {
+                        for (int j = 0; j < fits; j++) {
                             alike += heights[j][cell] == heights[i][cell] ? 1 : 0;
                         }
                         most = Math.max(most, alike);
